@@ -328,6 +328,9 @@ public final class CakesTest {
         Check.due("dislikes all else", x.isUnfit(0, 0), false);
         x.setNeed(0, 0, 1);
         Check.due("needed now", x.isUnfit(0, 0), true);
+        x.guest(0, 2, 0, 99, 0);
+        Check.due("one of two dislikes it", x.isUnfit(0, 0), true);
+        Check.dueThrow("no more of it", Check.STATE, () -> x.plan(0, 0, 10));
         x.drop(0, 0);
         Check.due("not open", x.isUnfit(0, 0), false);
         FridgeGossip y = new FridgeGossip();
@@ -354,6 +357,9 @@ public final class CakesTest {
         x.meet(0, 1);
         Check.due("taken already", x.isSpoilt(1, 0), true);
         Check.due("for 0 too", x.isSpoilt(0, 0), true);
+        x.plan(0, 1, 1);
+        x.bake(0, 1);
+        Check.due("another cake", x.isSpoilt(0, 1), false);
         Check.due("2 knows nothing", x.isSpoilt(2, 0), false);
         x.put(0, 0);
         Check.due("a later PUT mends nothing", x.isSpoilt(0, 0), true);
