@@ -50,6 +50,10 @@ public final class Check {
         }
     }
 
+    public static boolean isThrown(long answer) {
+        return answer == INDEX || answer == ARGUMENT || answer == STATE;
+    }
+
     public static void end() {
         System.out.println(wrong == 0 ? "all answers are as due" : wrong + " answers are not as due");
         if (wrong != 0) {

@@ -1,5 +1,3 @@
-import java.lang.reflect.InvocationTargetException;
-import java.util.Arrays;
 import java.util.Random;
 
 // Long runs of calls, each answer compared with that of the plain model; all promises, 512 calls at the most.
@@ -65,10 +63,11 @@ public final class ModelTest {
             if (which.length > 0 && random.nextInt(wrongOnceIn) == 0) {
                 numbers[which[random.nextInt(which.length)]] = ODD[random.nextInt(ODD.length)];
             }
-            long got = Check.answer(() -> call(x, name, numbers));
-            long want = Check.answer(() -> call(model, name, numbers));
+            Call call = call(name, numbers);
+            long got = call.answer(x);
+            long want = call.answer(model);
             note(name, want);
-            Check.due("run " + run + " call " + i + " " + NAMES[name] + Arrays.toString(numbers), got, want);
+            Check.due("run " + run + " call " + i + ", " + call, got, want);
             if (got != want) {
                 return;
             }
@@ -91,30 +90,18 @@ public final class ModelTest {
     }
 
     private static void note(int name, long answer) {
-        boolean thrown = answer < -1000;
+        boolean thrown = Check.isThrown(answer);
         telling[name] += !thrown && answer > 0 ? 1 : 0;
         threw[name] += thrown ? 1 : 0;
     }
 
-    /** Calls the method of this name, of the class or of the model. */
-    private static long call(Object x, int name, int[] numbers) {
+    /** The call of this name with those of the drawn numbers that it takes. */
+    private static Call call(int name, int[] numbers) {
         int[] which = ARGUMENTS[name];
-        Class<?>[] types = new Class<?>[which.length];
-        Object[] arguments = new Object[which.length];
+        int[] taken = new int[which.length];
         for (int i = 0; i < which.length; i++) {
-            types[i] = int.class;
-            arguments[i] = numbers[which[i]];
+            taken[i] = numbers[which[i]];
         }
-        try {
-            Object answer = x.getClass().getMethod(NAMES[name], types).invoke(x, arguments);
-            return answer instanceof Boolean ? ((Boolean) answer ? 1 : 0) : (Integer) answer;
-        } catch (InvocationTargetException e) {
-            if (e.getCause() instanceof RuntimeException) {
-                throw (RuntimeException) e.getCause();
-            }
-            throw new AssertionError(e);
-        } catch (ReflectiveOperationException e) {
-            throw new AssertionError(e);
-        }
+        return new Call(NAMES[name], taken);
     }
 }
