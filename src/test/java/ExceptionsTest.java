@@ -12,8 +12,9 @@ public final class ExceptionsTest {
 
     public static void main(String[] args) {
         story();
-        firstOfTheThrowsClause();
-        firstOfTheThrowsClauseWithAllWords();
+        numbersAheadOfRanges();
+        aheadOfStates();
+        aheadOfStatesWithAllWords();
         noSuchNumbers();
         outOfRange();
         asTheMethodSays();
@@ -31,14 +32,30 @@ public final class ExceptionsTest {
             "keptFor(0, 8) = 0; where(0, 39) = NONE; whereByAll(39) = 2; guests(0, 5) = 8; missing(0, 0) = 1");
     }
 
+    /** Each wrong number with each argument that is out of its range. */
+    private static void numbersAheadOfRanges() {
+        String sentence = "the first one of the throws clause: no such number, ahead of an argument out of its range";
+        String[] ranges = {"-1, 9, 0", "100, 100, 0", "5, 4, 0", "5, 100, 0", "5, -1, 0", "5, 5, -1", "5, 5, 256"};
+        for (int none : new int[] {-1, 8}) {
+            for (String range : ranges) {
+                Run.of(sentence, STORY, Run.with(none, "guest(%d, 3, #) = INDEX; guest(0, %d, #) = INDEX;"
+                    + "guest(0, 3, #) = ARGUMENT").replace("#", range));
+            }
+            for (String range : new String[] {"-1", "100"}) {
+                Run.of(sentence, STORY, Run.with(none, "guests(%d, #) = INDEX; plan(%d, 0, #) = INDEX;"
+                    + "plan(0, %d, #) = INDEX; setNeed(%d, 0, #) = INDEX; setNeed(0, %d, #) = INDEX;"
+                    + "guests(0, #) = ARGUMENT; plan(0, 0, #) = ARGUMENT; setNeed(0, 0, #) = ARGUMENT")
+                    .replace("#", range));
+            }
+            Run.of(sentence, STORY, Run.with(none, "meet(%d, %d) = INDEX; meet(%d, 0) = INDEX; meet(0, %d) = INDEX"));
+        }
+        Run.of(sentence, STORY, "meet(5, 5) = INDEX; meet(4, 4) = ARGUMENT; guests(5, 100) = INDEX;",
+            "setNeed(6, 0, 4) = INDEX; setNeed(5, 0, 4) = ARGUMENT; setNeed(0, 7, 4) = ARGUMENT;",
+            "plan(5, 0, 100) = INDEX; plan(0, 6, 100) = INDEX; plan(4, 5, 100) = ARGUMENT");
+    }
+
     /** Each call would throw a later exception of its clause too, if it did not throw the first one. */
-    private static void firstOfTheThrowsClause() {
-        Run.of("the first one of the throws clause: IndexOutOfBoundsException ahead of IllegalArgumentException",
-            STORY, "meet(5, 5) = INDEX; meet(-1, -1) = INDEX; guest(5, 0, -1, 0, 0) = INDEX;",
-            "guest(0, 8, 0, 100, 0) = INDEX;",
-            "guest(0, -1, 0, 0, 256) = INDEX; guests(5, 100) = INDEX; guests(-1, -1) = INDEX;",
-            "setNeed(6, 0, 4) = INDEX;",
-            "setNeed(0, 8, -1) = INDEX; plan(5, 0, 100) = INDEX; plan(0, 6, -1) = INDEX");
+    private static void aheadOfStates() {
         Run.of("the first one of the throws clause: IndexOutOfBoundsException ahead of IllegalStateException", STORY,
             "take(5, 7) = INDEX; take(0, 40) = INDEX; put(-1, 1) = INDEX; keep(5, 2) = INDEX; keep(0, 5) = INDEX;",
             "drop(-1, 1) = INDEX; drop(0, 5) = INDEX; bake(5, 0) = INDEX; bake(0, -1) = INDEX; plan(-1, 0, 5) = INDEX");
@@ -47,7 +64,7 @@ public final class ExceptionsTest {
             "plan(0, 0, 100) = ARGUMENT; plan(0, 0, -1) = ARGUMENT; plan(0, 6, 99) = INDEX; plan(5, 0, 99) = INDEX");
     }
 
-    private static void firstOfTheThrowsClauseWithAllWords() {
+    private static void aheadOfStatesWithAllWords() {
         String full = STORY + Run.times(240 - WORDS, "guest(4, 7, 99, 99, 0)") + "words() = 240;";
         Run.of("the first one of the throws clause, with 240 words", full, "put(5, 2) = INDEX; put(0, 40) = INDEX;",
             "take(5, 1) = INDEX; take(0, -1) = INDEX; guest(5, 0, 0, 0, 0) = INDEX; guest(0, 8, 0, 0, 0) = INDEX;",
